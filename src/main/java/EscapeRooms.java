@@ -337,7 +337,7 @@ public final class EscapeRooms {
         asker.time = time;
         asker.hints++;
         hintsTaken++;
-        findPlan(asker);
+        search.find(asker, exit, doors, keys, lockCount);
         if (!search.isFound) {
             return HINT_OF_DEAD_END;
         }
@@ -358,7 +358,7 @@ public final class EscapeRooms {
         if (!asker.isInPlay()) {
             return NOT_POSSIBLE;
         }
-        findPlan(asker);
+        search.find(asker, exit, doors, keys, lockCount);
         if (!search.isFound) {
             return NONE;
         }
@@ -377,7 +377,7 @@ public final class EscapeRooms {
         if (!asker.isInPlay()) {
             return NOT_POSSIBLE;
         }
-        findPlan(asker);
+        search.find(asker, exit, doors, keys, lockCount);
         if (!search.isFound || place >= search.doorCount) {
             return NONE;
         }
@@ -557,17 +557,13 @@ public final class EscapeRooms {
         for (int i = 0; i < groups.size(); i++) {
             Group one = groups.get(i);
             if (one.isInPlay()) {
-                findPlan(one);
+                search.find(one, exit, doors, keys, lockCount);
                 if (!search.isFound) {
                     dead++;
                 }
             }
         }
         return dead;
-    }
-
-    private void findPlan(Group group) {
-        search.find(group, exit, doors, keys, lockCount);
     }
 
     private int keysHeldBy(Group group) {
@@ -895,30 +891,38 @@ public final class EscapeRooms {
 
         /** Opens each door that can come next; one between two rooms reached would cost time and give nothing. */
         private void goOnFrom(int state, int rooms, long way) {
+            int left = keysLeft(state, rooms);
             for (int i = 0; i < doors.size(); i++) {
                 Door next = doors.get(i);
-                if (!next.isPassable(state) && next.leadsOutOf(rooms) && hasKeyFor(next.color, state, rooms)) {
+                if (!next.isPassable(state) && next.leadsOutOf(rooms) && hasOne(left, next.color)) {
                     comeTo(state | next.lockBit, rooms | next.roomBits, (way << 4) | next.number);
                 }
             }
         }
 
-        /** Whether more keys of a color are within reach than the doors opened up to a state took. */
-        private boolean hasKeyFor(int color, int state, int rooms) {
-            int spare = 0;
+        /**
+         * How many keys of each color are within reach in a state and were not used by its doors. Each
+         * color has five bits, as there are at most 16 keys, so that one number a state is enough.
+         */
+        private int keysLeft(int state, int rooms) {
+            int left = 0;
             for (int i = 0; i < keys.size(); i++) {
                 Key one = keys.get(i);
-                if (one.color == color && one.isWithin(group, rooms)) {
-                    spare++;
+                if (one.isWithin(group, rooms)) {
+                    left += 1 << (5 * one.color);
                 }
             }
             for (int i = 0; i < doors.size(); i++) {
                 Door one = doors.get(i);
-                if (one.color == color && isOpenedByPlan(one, state)) {
-                    spare--;
+                if (isOpenedByPlan(one, state)) {
+                    left -= 1 << (5 * one.color);
                 }
             }
-            return spare > 0;
+            return left;
+        }
+
+        private static boolean hasOne(int left, int color) {
+            return ((left >> (5 * color)) & 31) != 0;
         }
 
         private boolean isOpenedByPlan(Door door, int state) {

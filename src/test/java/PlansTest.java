@@ -21,6 +21,8 @@ public final class PlansTest {
         doorsOpenedBefore();
         clocksPlayNoPart();
         plansFollowTheGame();
+        eachCallAsksForItsOwnGroup();
+        manyColors();
         tenDoors();
         check.end();
     }
@@ -294,6 +296,63 @@ public final class PlansTest {
         dueDeadEnd("another exit", game, 0);
         game.addDoor(2, 3, 1);
         duePlan("another door", game, 0, 0);
+    }
+
+    private static void eachCallAsksForItsOwnGroup() {
+        EscapeRooms game = withRooms(4, 3);
+        game.addLock(0, 1, 1, 0, 5);
+        game.addLock(1, 2, 1, 0, 5);
+        game.addLock(2, 3, 1, 0, 5);
+        game.addKey(1, 0);
+        game.addKey(2, 0);
+        game.addGroup(1, 1);
+        game.addGroup(1, 2);
+        game.addGroup(1, 0);
+        check.due("planned(1, 0)", game.planned(1, 0), 2);
+        check.due("planned(0, 0)", game.planned(0, 0), 1);
+        check.due("planned(2, 0)", game.planned(2, 0), NONE);
+        check.due("planned(0, 1)", game.planned(0, 1), 2);
+        check.due("planned(1, 1)", game.planned(1, 1), NONE);
+        check.due("plan(0, 1)", game.plan(0, 1), 2);
+        check.due("plan(1, 1)", game.plan(1, 1), 1);
+        check.due("plan(2, 1)", game.plan(2, 1), NONE);
+        check.due("hint(0)", game.hint(0), 1);
+        check.due("hint(1)", game.hint(1), 2);
+        check.due("hint(2)", game.hint(2), 17);
+    }
+
+    /** Sixteen keys of one color, and one way by a door of each color in turn. */
+    private static void manyColors() {
+        for (int last = 0; last < 6; last++) {
+            EscapeRooms game = withRooms(3, 2);
+            int first = (last + 1) % 6;
+            game.addLock(0, 1, 1, first, 5);
+            game.addLock(1, 2, 1, last, 5);
+            game.addKey(0, first);
+            game.addGroup(1, 0);
+            for (int i = 0; i < 14; i++) {
+                game.addKey(0, first);
+            }
+            dueDeadEnd("no key of color " + last, game, 0);
+            game.addKey(0, last);
+            duePlan("a key of color " + last, game, 0, 10, 0, 1);
+
+            EscapeRooms full = withRooms(2, 1);
+            full.addLock(0, 1, 1, last, 5);
+            full.addGroup(1, 0);
+            for (int i = 0; i < 16; i++) {
+                full.addKey(0, last);
+            }
+            duePlan("16 keys of color " + last, full, 0, 5, 0);
+
+            EscapeRooms other = withRooms(2, 1);
+            other.addLock(0, 1, 1, last, 5);
+            other.addGroup(1, 0);
+            for (int i = 0; i < 16; i++) {
+                other.addKey(0, (last + 5) % 6);
+            }
+            dueDeadEnd("16 keys of the color before " + last, other, 0);
+        }
     }
 
     /** Ten locks in a row, the door of the room 0 with the highest number, each with its key before it. */
