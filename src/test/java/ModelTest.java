@@ -1,8 +1,10 @@
 import java.util.Random;
 
-/** Runs of 512 random calls, each answered by the class and by the model; then all that is told is compared. */
+/** Runs of random calls, each answered by the class and by the model; the last ones ask for whatever is told. */
 public final class ModelTest {
     private static final int RUNS = 1500;
+    private static final int MOST_CALLS = 512;
+    private static final int LAST_CALLS = 100;
     private static final Check check = new Check("ModelTest");
 
     private final Random random;
@@ -16,7 +18,8 @@ public final class ModelTest {
     private final int keys;
     private final int colors;
     private final int longestTime;
-    private int wrongBefore = 0;
+    private final boolean isLate;
+    private int made = 0;
 
     private ModelTest(long seed) {
         random = new Random(seed);
@@ -27,6 +30,7 @@ public final class ModelTest {
         keys = isFull ? 18 : 1 + random.nextInt(12);
         colors = 1 + random.nextInt(6);
         longestTime = random.nextBoolean() ? 5 : 60;
+        isLate = random.nextInt(6) == 0;
     }
 
     public static void main(String[] args) {
@@ -37,33 +41,39 @@ public final class ModelTest {
     }
 
     private void run() {
-        int made = build();
-        while (made < 512) {
-            act();
-            made++;
-            if (check.wrong() > wrongBefore) {
-                System.out.println(calls);
-                return;
+        build();
+        while (made < MOST_CALLS && check.wrong() == 0) {
+            if (made < MOST_CALLS - LAST_CALLS) {
+                act();
+            } else {
+                tellWhatever();
             }
         }
-        tellAll();
+        if (check.wrong() > 0) System.out.println(calls);
     }
 
+    /** Each call asks the game once, which is promised to answer no more than 512 of them. */
     private void due(String call, int got, int want) {
+        made++;
         calls.append(call).append(" -> ").append(got).append('\n');
         check.due(call, got, want);
     }
 
-    private int build() {
-        int made = 0;
-        for (int i = 0; i < rooms; i++, made++) due("addRoom()", game.addRoom(), model.addRoom());
+    private void build() {
+        for (int i = 0; i < rooms; i++) due("addRoom()", game.addRoom(), model.addRoom());
         int exit = random.nextInt(rooms);
         due("setExit(" + exit + ")", game.setExit(exit), model.setExit(exit));
-        made++;
-        for (int i = 0; i < doors; i++, made++) addDoorOrLock();
-        for (int i = 0; i < keys; i++, made++) addKey();
-        for (int i = random.nextInt(4); i >= 0; i--, made++) addGroup();
-        return made;
+        for (int i = 0; i < doors; i++) addDoorOrLock();
+        for (int i = 0; i < keys; i++) addKey();
+        for (int i = random.nextInt(4); i >= 0; i--) addGroup();
+        if (isLate) waitLong();
+    }
+
+    /** Brings the group 0 near the last time of the clock. */
+    private void waitLong() {
+        for (int i = 0; i < 99; i++) due("idle(0, 1000)", game.idle(0, 1000), model.idle(0, 1000));
+        int rest = 800 + random.nextInt(201);
+        due("idle(0, " + rest + ")", game.idle(0, rest), model.idle(0, rest));
     }
 
     private void addDoorOrLock() {
@@ -99,7 +109,7 @@ public final class ModelTest {
     }
 
     private int room() {
-        return strange(random.nextInt(Math.max(1, game.count(0))));
+        return strange(random.nextInt(Math.max(1, model.count(0))));
     }
 
     private int color() {
@@ -107,15 +117,15 @@ public final class ModelTest {
     }
 
     private int door() {
-        return strange(random.nextInt(Math.max(1, game.count(1))));
+        return strange(random.nextInt(Math.max(1, model.count(1))));
     }
 
     private int key() {
-        return strange(random.nextInt(Math.max(1, game.count(2))));
+        return strange(random.nextInt(Math.max(1, model.count(2))));
     }
 
     private int group() {
-        return strange(random.nextInt(Math.max(1, game.count(3))));
+        return strange(random.nextInt(Math.max(1, model.count(3))));
     }
 
     private void act() {
@@ -204,20 +214,23 @@ public final class ModelTest {
         }
     }
 
-    private void tellAll() {
-        for (int number = -1; number < 17; number++) {
-            due("reach(" + number + ")", game.reach(number), model.reach(number));
-            for (int what = -1; what < 12; what++) {
-                String row = "(" + number + ", " + what + ")";
-                due("plan" + row, game.plan(number, what), model.plan(number, what));
-                due("planned" + row, game.planned(number, what), model.planned(number, what));
-                due("way" + row, game.way(number, what), model.way(number, what));
-                due("door" + row, game.door(number, what), model.door(number, what));
-                due("key" + row, game.key(number, what), model.key(number, what));
-                due("group" + row, game.group(number, what), model.group(number, what));
-                due("color" + row, game.color(number, what), model.color(number, what));
-            }
-            due("count(" + number + ")", game.count(number), model.count(number));
+    /** Numbers and properties from below the first one to behind the last one. */
+    private void tellWhatever() {
+        int number = random.nextInt(19) - 1;
+        int what = random.nextInt(14) - 1;
+        int group = random.nextInt(8) - 1;
+        String row = "(" + number + ", " + what + ")";
+        String ofGroup = "(" + group + ", " + what + ")";
+        switch (random.nextInt(9)) {
+            case 0: due("reach(" + group + ")", game.reach(group), model.reach(group)); break;
+            case 1: due("plan" + ofGroup, game.plan(group, what), model.plan(group, what)); break;
+            case 2: due("planned" + ofGroup, game.planned(group, what), model.planned(group, what)); break;
+            case 3: due("way" + ofGroup, game.way(group, what), model.way(group, what)); break;
+            case 4: due("door" + row, game.door(number, what), model.door(number, what)); break;
+            case 5: due("key" + row, game.key(number, what), model.key(number, what)); break;
+            case 6: due("group" + ofGroup, game.group(group, what), model.group(group, what)); break;
+            case 7: due("color" + ofGroup, game.color(group, what), model.color(group, what)); break;
+            default: due("count(" + what + ")", game.count(what), model.count(what));
         }
     }
 }
