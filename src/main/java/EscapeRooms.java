@@ -321,7 +321,10 @@ public final class EscapeRooms {
         return leaver.time;
     }
 
-    /** Takes a hint. Returns the first door of the best plan, 16 without doors, 17 without a plan; UNKNOWN; NOT_POSSIBLE; TOO_LATE. */
+    /**
+     * Takes a hint. Returns the first door of the best plan, 16 without doors, 17 without a plan;
+     * UNKNOWN; NOT_POSSIBLE; TOO_LATE.
+     */
     public int hint(int group) {
         if (!isGroup(group)) {
             return UNKNOWN;

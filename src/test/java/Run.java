@@ -32,8 +32,19 @@ final class Run {
         return methods;
     }
 
-    private Run twin() {
-        return new Run(check, history.toArray(new String[0]));
+    /** A new game that gets the calls that this one got so far. */
+    Run twin() {
+        Run twin = new Run(check);
+        for (String call : history) {
+            twin.ask(call);
+        }
+        return twin;
+    }
+
+    /** The calls so far, for a message. */
+    @Override
+    public String toString() {
+        return " after " + history;
     }
 
     /** Makes calls whose answers matter only in that they are no errors. */
@@ -114,7 +125,7 @@ final class Run {
         }
     }
 
-    private int ask(String call) {
+    int ask(String call) {
         history.add(call);
         if (history.size() > MOST_CALLS) {
             check.isTrue("the test itself asks one object " + history.size() + " times", false);
